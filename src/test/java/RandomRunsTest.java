@@ -23,7 +23,11 @@ public final class RandomRunsTest {
         try {
             return String.valueOf(call.call());
         } catch (Exception e) {
-            return e.getClass().getSimpleName();
+            // Both courts must throw by themselves: what the library throws has another place on top.
+            StackTraceElement[] trace = e.getStackTrace();
+            String thrower = trace.length == 0 ? "the machine" : trace[0].getClassName();
+            boolean isOwn = thrower.equals("RegressionCourt") || thrower.equals("SlowCourt");
+            return isOwn ? e.getClass().getSimpleName() : e + " from " + thrower;
         }
     }
 
