@@ -2,27 +2,17 @@ import java.util.concurrent.Callable;
 
 /** A test for each promise of the document, with answers worked out by hand. */
 public final class PromisesTest {
-    private static final String INDEX = "IndexOutOfBoundsException";
-    private static final String ARGUMENT = "IllegalArgumentException";
-    private static final String STATE = "IllegalStateException";
+    private static final String INDEX = Answers.INDEX;
+    private static final String ARGUMENT = Answers.ARGUMENT;
+    private static final String STATE = Answers.STATE;
 
     private static int promise;
     private static int asked = 0;
     private static int wrong = 0;
 
-    private static String answer(Callable<Object> call) {
-        try {
-            return String.valueOf(call.call());
-        } catch (Exception e) {
-            // The class must throw by itself: what the library throws for it has another place on top.
-            String thrower = e.getStackTrace()[0].getClassName();
-            return thrower.equals("RegressionCourt") ? e.getClass().getSimpleName() : e + " from " + thrower;
-        }
-    }
-
     private static void due(String what, Callable<Object> call, Object due) {
         asked++;
-        String got = answer(call);
+        String got = Answers.of(call);
         if (!got.equals(String.valueOf(due))) {
             wrong++;
             System.out.println("promise " + promise + ": " + what + " answered " + got + ", due is " + due);
