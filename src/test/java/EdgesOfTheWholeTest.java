@@ -93,6 +93,7 @@ public final class EdgesOfTheWholeTest {
         digestIs(new Trial("machine 1 100", "changes 2", "run 0 0 10", "run 1 0 20", "begin 0 2"));
         digestIs(new Trial("machine 60 200", "machine 1 50", "run 0 1 9999", "run 0 1 9999", "measure 1 200", "strike 1"));
         digestIs(fullCourt());
+        digestIs(new Trial("machine 1 100", "changes 1", "rule 2 200").runs(0, 20, 20).runs(1, 10, 10).due("wouldMove", 1));
     }
 
     private static void digestOfNothing() {

@@ -121,6 +121,14 @@ public final class EdgesOfVerdictsTest {
         two.tell("rule 2 200").due("verdict 0 1 0", 2).tell("rule 2 199").due("verdict 0 1 0", 4);
     }
 
+    private static void justAbove() {
+        Trial.sentence("3: HIGH * 1000 against LEVEL * ALL: 61000 is above 66 * 924, which is 60984");
+        Trial court = courtOf(new int[] {1, 2, 3, 4, 7, 12}, new int[] {5, 6, 8, 9, 10, 11}).tell("rule 6 66");
+        ranks(court, "0 1", 56, 61, 881, 924);
+        court.due("verdict 0 1 0", 3).due("verdict 1 0 0", 3);
+        court.tell("rule 6 67").due("verdict 0 1 0", 1).due("verdict 1 0 0", 2);
+    }
+
     private static void leastAndGreatestLevel() {
         Trial.sentence("3: LEVEL 1 to 200; 50, at first");
         Trial apart = courtOf(times(6, 10), times(6, 20)).due("verdict 0 1 0", 1);
@@ -264,6 +272,7 @@ public final class EdgesOfVerdictsTest {
         enoughAtFirst();
         levelNotAbove();
         lowNotAbove();
+        justAbove();
         leastAndGreatestLevel();
         same();
         noSuchChange();
