@@ -1,6 +1,6 @@
 import java.math.BigInteger;
 
-/** What goes through all sections: refused calls on an empty, a common and a full court, 512 calls, the checksum. */
+/** What goes through all sections: refused calls on an empty and a full court, 512 calls, the checksum. */
 public final class EdgesOfTheWholeTest {
     /** 4 machines, 3 of them aside, 40 changes, 80 runs, 5000 minutes, a case that waits, one change excused. */
     private static Trial fullCourt() {
@@ -104,6 +104,25 @@ public final class EdgesOfTheWholeTest {
         new Trial().due("digest", d.longValue());
     }
 
+    private static void parents() {
+        Trial.sentence("2: the PARENT of a CHANGE is that ahead of it; 0 has none");
+        Trial court = new Trial("machine 1 100", "changes 2").runs(0, 10, 20, 30).runs(1, 40, 50, 60).runs(2, 5, 25, 45);
+        court.due("verdict 0 1 1", 18).due("verdict 1 2 1", 2).due("verdict 1 0 1", 0).due("verdict 2 1 1", 16);
+        digestIs(court);
+    }
+
+    private static void eachForItself() {
+        Trial.sentence("what it is: an object knows nothing of another one");
+        Trial one = new Trial("machine 1 100", "changes 1");
+        Trial other = new Trial();
+        other.due("many 0", 0).due("many 1", 1);
+        one.runs(0, 10, 10, 10).runs(1, 20, 20, 20).tell("begin 0 1", "excuse 1 40", "budget 10", "rule 2 200");
+        int[] due = {0, 1, 0, 0, 1000, 100, 0, 0, 0};
+        for (int what = 0; what <= 8; what++) other.due("many " + what, due[what]);
+        other.due("ofCase 3", -1).due("verdict 0 0 4", 1).due("rule 3 50", 50);
+        one.due("verdict 0 1 0", 1).due("verdict 0 1 4", 20).due("ofCase 3", 1).due("many 5", 60).due("rule 2 200", 200);
+    }
+
     public static void main(String[] args) {
         fullStands();
         fullRefusesState();
@@ -115,6 +134,8 @@ public final class EdgesOfTheWholeTest {
         manyCalls();
         wrapsAround();
         digestOfNothing();
+        parents();
+        eachForItself();
         Trial.close("EdgesOfTheWholeTest");
     }
 }

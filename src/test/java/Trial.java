@@ -41,6 +41,11 @@ final class Trial {
         sentences++;
     }
 
+    static void same(String what, String got, String due) {
+        asked++;
+        if (!got.equals(due)) fail(what + " answered " + got + ", due is " + due);
+    }
+
     static void close(String test) {
         System.out.println(test + ": " + sentences + " sentences, " + asked + " answers, " + wrong + " wrong");
         if (wrong != 0) System.exit(1);
@@ -158,11 +163,6 @@ final class Trial {
         RegressionCourt fresh = new RegressionCourt();
         for (String call : told) callOn(fresh, call);
         return fresh;
-    }
-
-    private static void same(String what, String got, String due) {
-        asked++;
-        if (!got.equals(due)) fail(what + " answered " + got + ", due is " + due);
     }
 
     private static void fail(String what) {
